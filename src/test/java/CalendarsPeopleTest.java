@@ -46,6 +46,9 @@ public final class CalendarsPeopleTest {
     c.due("three: 11", x.drift(0, 3), 1);
     c.due("four: 20", x.drift(0, 4), 1);
     c.due("again from the first on", x.drift(0, 60), 1);
+    Check.retype(x, 1, "03;04;02");
+    c.due("three: 7", x.drift(0, 3), 3);
+    c.due("six: 16", x.drift(0, 6), 4);
     x.sun(0, 2, 0);
     c.due("up is 0", x.drift(0, 3), -3);
     c.due("bad goes ahead", x.drift(0, 61), -2);
@@ -74,6 +77,10 @@ public final class CalendarsPeopleTest {
     shortest(x, 0, 2, -1, -1);
     shortest(x, 16, 79, 39, 40);
     shortest(x, 10, 79, -1, -1);
+    x.sun(0, 1, 5);
+    shortest(x, 6, 79, 40, 39);
+    x.sun(0, 1, 6);
+    shortest(x, 6, 39, -1, -1);
     c.due("up is 0", x.shortest(1, 0, 8, 0), -3);
     c.due("bad goes ahead", x.shortest(1, 21, 8, 0), -2);
     c.due("most -1", x.shortest(0, -1, 8, 0), -2);
@@ -98,10 +105,8 @@ public final class CalendarsPeopleTest {
     c.due("refusals change nothing", x.awake(0, 0), 15);
   }
 
-  /** Lights from hour 0 on: 1 2 0 1 3 0 0 3 1 0 2 1, and again. */
-  private static SecondSunrise dozen() {
-    SecondSunrise x = new SecondSunrise();
-    Check.suns(x, 4, 1, 2, 3, 2, 1);
+  private static SecondSunrise peopled() {
+    SecondSunrise x = Check.dozen();
     x.awake(0, 1);
     x.awake(1, 3);
     x.awake(5, 8);
@@ -109,7 +114,7 @@ public final class CalendarsPeopleTest {
   }
 
   private static void togetherHours() {
-    SecondSunrise x = dozen();
+    SecondSunrise x = peopled();
     c.due("nobody", x.together(0, 3, 7, 0), 7);
     c.due("person 0", x.together(1, 0, 12, 0), 4);
     c.due("person 1", x.together(2, 0, 12, 0), 8);
@@ -117,6 +122,7 @@ public final class CalendarsPeopleTest {
     c.due("person 5", x.together(32, 4, 1, 0), 1);
     c.due("person 5", x.together(32, 5, 2, 0), 0);
     c.due("never", x.together(33, 0, 100, 0), 0);
+    c.due("all six", x.together(63, 0, 100, 0), 0);
     c.due("100 hours", x.together(2, 0, 100, 0), 67);
     c.due("from the last hour on", x.together(1, 1000000000, 3, 0), 2);
     int[][] bad = {{-1, 0, 1, 0}, {64, 0, 1, 0}, {0, -1, 1, 0}, {0, 1000000001, 1, 0},
@@ -125,7 +131,7 @@ public final class CalendarsPeopleTest {
   }
 
   private static void togetherStarts() {
-    SecondSunrise x = dozen();
+    SecondSunrise x = peopled();
     c.due("the told hour, if it is as great", x.together(0, 9, 5, 1), 9);
     c.due("person 0, 1 hour", x.together(1, 0, 1, 1), 2);
     c.due("person 0, 2 hours", x.together(1, 0, 2, 1), 5);

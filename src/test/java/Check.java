@@ -37,6 +37,13 @@ final class Check {
     for (int i = 0; i < 6; i++) x.sun(i / 3, i % 3, v[i]);
   }
 
+  /** Lights from hour 0 on: 1 2 0 1 3 0 0 3 1 0 2 1, and again. */
+  static SecondSunrise dozen() {
+    SecondSunrise x = new SecondSunrise();
+    suns(x, 4, 1, 2, 3, 2, 1);
+    return x;
+  }
+
   void end() {
     System.out.println(asked + " answers, " + wrong + " not as due");
     if (wrong != 0 || asked == 0) System.exit(1);

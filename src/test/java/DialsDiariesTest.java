@@ -14,15 +14,8 @@ public final class DialsDiariesTest {
     c.due("dials(" + red + ", " + blue + ", 1)", x.dials(red, blue, 1), first);
   }
 
-  /** Lights from hour 0 on: 1 2 0 1 3 0 0 3 1 0 2 1, and again. */
-  private static SecondSunrise dozen() {
-    SecondSunrise x = new SecondSunrise();
-    Check.suns(x, 4, 1, 2, 3, 2, 1);
-    return x;
-  }
-
   private static void dialsShow() {
-    SecondSunrise x = dozen();
+    SecondSunrise x = Check.dozen();
     dials(x, -1, -1, 4, 2);
     dials(x, 0, -1, 2, 3);
     dials(x, 1, -1, 2, 0);
@@ -43,7 +36,7 @@ public final class DialsDiariesTest {
   }
 
   private static void diariesFit() {
-    SecondSunrise x = dozen();
+    SecondSunrise x = Check.dozen();
     fits(x, "", 12, 0);
     fits(x, "....", 12, 0);
     fits(x, "rbnrdn", 1, 42);
@@ -72,7 +65,7 @@ public final class DialsDiariesTest {
   }
 
   private static void hoursToWatch() {
-    SecondSunrise x = dozen();
+    SecondSunrise x = Check.dozen();
     watch(x, "", 0, 4);
     watch(x, "x", 0, 4);
     watch(x, "...", 3, 4);

@@ -1,5 +1,6 @@
 import java.util.ArrayList;
 import java.util.List;
+import java.util.Random;
 
 /** Promise 37: the digest is made of the answers of the other calls, in the order told. */
 public final class DigestTest {
@@ -32,7 +33,20 @@ public final class DigestTest {
     x.type(0, 'x');
     x.type(1, 'x');
     same("with faults", x);
+    Random random = new Random(37);
+    for (int i = 0; i < 100; i++) same("of state " + i, someState(random));
     c.end();
+  }
+
+  private static SecondSunrise someState(Random random) {
+    SecondSunrise x = new SecondSunrise();
+    for (int i = 0; i < 40; i++) {
+      Calls call = Calls.ALL[random.nextInt(Calls.ALL.length)];
+      call.askReal(x, call.someArguments(random));
+    }
+    Check.retype(x, 0, random.nextBoolean() ? "d.x" : "..r");
+    Check.retype(x, 1, random.nextBoolean() ? "07;0" : "07;11");
+    return x;
   }
 
   private static void add(List<Long> all, long... values) {

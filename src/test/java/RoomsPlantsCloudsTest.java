@@ -99,15 +99,8 @@ public final class RoomsPlantsCloudsTest {
     growth(x, 3, 0, 1, 1, 2);
   }
 
-  /** Lights from hour 0 on: 1 2 0 1 3 0 0 3 1 0 2 1, and again. */
-  private static SecondSunrise dozen() {
-    SecondSunrise x = new SecondSunrise();
-    Check.suns(x, 4, 1, 2, 3, 2, 1);
-    return x;
-  }
-
   private static void crops() {
-    SecondSunrise x = dozen();
+    SecondSunrise x = Check.dozen();
     c.due("crop(0, 0)", x.crop(0, 0), 3);
     c.due("crop(0, 4)", x.crop(0, 4), 4);
     c.due("from the last hour on", x.crop(0, 1000000000), 4);
@@ -134,11 +127,19 @@ public final class RoomsPlantsCloudsTest {
   }
 
   private static void plantings() {
-    SecondSunrise x = dozen();
+    SecondSunrise x = Check.dozen();
     planting(x, 0, 0, 0, -1);
     planting(x, 0, 3, 0, -1);
     planting(x, 0, 4, 3, 0);
     planting(x, 0, 5, 4, -1);
+    planting(x, 2, 5, 3, -1);
+    x.plant(0, 12);
+    planting(x, 3, 60, 50, 0);
+    for (int p = 1; p < 4; p++) x.plant(p, 20);
+    planting(x, 0, 60, 50, 0);
+    planting(x, 0, 12, 10, 0);
+    planting(x, 0, 11, 0, -1);
+    for (int p = 0; p < 4; p++) x.plant(p, 4);
     for (int l = 0; l < 4; l++) x.grows(0, l, -1);
     planting(x, 0, 4, 3, 1);
     x.plant(2, 2);

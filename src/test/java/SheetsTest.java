@@ -29,9 +29,11 @@ public final class SheetsTest {
     c.due("size", x.sheet(3, 0, -1), -15);
     c.due("size", x.sheet(3, 0, LEAST), -15);
     c.due("finding 5", x.count(8), 5);
+    x.put(3, 2, 0, 76);
     x.put(3, 2, 47, 77);
     c.due("a finding changes nothing", x.get(3, 2, 47), 77);
     c.due("anew", x.sheet(3, 2, 48), 48);
+    c.due("items are 0", x.get(3, 2, 0), 0);
     c.due("items are 0", x.get(3, 2, 47), 0);
   }
 
@@ -160,8 +162,7 @@ public final class SheetsTest {
   }
 
   private static void writing() {
-    SecondSunrise x = new SecondSunrise();
-    Check.suns(x, 4, 1, 2, 3, 2, 1);
+    SecondSunrise x = Check.dozen();
     int[] lights = {1, 2, 0, 1, 3, 0, 0, 3, 1, 0, 2, 1};
     c.due("null", x.write(0, 0), -11);
     c.due("bad goes ahead", x.write(-1, 0), -2);

@@ -13,8 +13,7 @@ public final class UpTest {
   }
 
   private static void lightsAndPlaces() {
-    SecondSunrise x = new SecondSunrise();
-    Check.suns(x, 4, 1, 2, 3, 2, 1);
+    SecondSunrise x = Check.dozen();
     int[] lights = {1, 2, 0, 1, 3, 0, 0, 3, 1, 0, 2, 1};
     for (int h = 0; h < 36; h++) {
       c.due("light(" + h + ")", x.light(h), lights[h % 12]);
@@ -45,8 +44,7 @@ public final class UpTest {
   }
 
   private static void nexts() {
-    SecondSunrise x = new SecondSunrise();
-    Check.suns(x, 4, 1, 2, 3, 2, 1);
+    SecondSunrise x = Check.dozen();
     c.due("it, too", x.next(4, 3), 4);
     c.due("later", x.next(5, 3), 7);
     c.due("across the round's end", x.next(8, 3), 16);
@@ -66,8 +64,7 @@ public final class UpTest {
   }
 
   private static void lasting() {
-    SecondSunrise x = new SecondSunrise();
-    Check.suns(x, 4, 1, 2, 3, 2, 1);
+    SecondSunrise x = Check.dozen();
     c.due("one hour", x.lasts(0), 1);
     c.due("two hours", x.lasts(5), 2);
     c.due("the rest of them", x.lasts(6), 1);
@@ -87,8 +84,8 @@ public final class UpTest {
   }
 
   private static void spellsOfLights() {
-    SecondSunrise x = new SecondSunrise();
-    Check.suns(x, 4, 1, 2, 3, 2, 1);
+    spellsOf(new SecondSunrise(), 3, 30, 10, 5);
+    SecondSunrise x = Check.dozen();
     spellsOf(x, 0, 4, 3, 2);
     spellsOf(x, 1, 4, 3, 2);
     spellsOf(x, 2, 2, 2, 1);
