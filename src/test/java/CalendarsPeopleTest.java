@@ -81,6 +81,9 @@ public final class CalendarsPeopleTest {
     shortest(x, 6, 79, 40, 39);
     x.sun(0, 1, 6);
     shortest(x, 6, 39, -1, -1);
+    x.sun(0, 1, 28);
+    shortest(x, 12, 2, 1, 1);
+    shortest(x, 11, 2, -1, -1);
     c.due("up is 0", x.shortest(1, 0, 8, 0), -3);
     c.due("bad goes ahead", x.shortest(1, 21, 8, 0), -2);
     c.due("most -1", x.shortest(0, -1, 8, 0), -2);
