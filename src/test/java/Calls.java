@@ -37,6 +37,11 @@ final class Calls {
     return Arrays.stream(c.getDeclaredMethods()).filter(m -> m.getName().equals(name)).findFirst().orElseThrow();
   }
 
+  static Calls named(String name) {
+    for (Calls call : ALL) if (call.name.equals(name)) return call;
+    throw new IllegalArgumentException("no call " + name);
+  }
+
   int parameters() { return bounds.length / 2; }
 
   private static long ask(Method m, Object on, int[] args) {
