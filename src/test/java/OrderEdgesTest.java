@@ -9,12 +9,17 @@ public final class OrderEdgesTest {
   private static final Sentences s = new Sentences("OrderEdgesTest");
   private static final int LAST = Land.LAST_HOUR;
   private static final int LEAST = Integer.MIN_VALUE;
+  private static final List<String> ASKING = List.of("fault", "light", "place", "round", "next", "lasts", "spells",
+      "without", "month", "drift", "shortest", "together", "dials", "fits", "watch", "price", "crop", "planting",
+      "clouds", "count", "digest");
 
   public static void main(String[] args) {
     s.says("BAD -2 (a number not as told, no such thing)", OrderEdgesTest::allWrong);
     s.says("Refusals, the first that fits, in the order told at each act", OrderEdgesTest::badFirst);
     s.says("NULL, NOT -3 (as told), FULL -4, other FINDINGS.", OrderEdgesTest::nullFirst);
     s.says("They change nothing (FINDINGS but count() 8).", OrderEdgesTest::changeNothing);
+    s.says("Nothing is promised beyond the answers and state changes described above", OrderEdgesTest::askingChangesNothing);
+    s.says("8 the number of the latest FINDING", OrderEdgesTest::findingIsKept);
     s.says("Where the answer is a long, a refusal -x is the least long and x more.", OrderEdgesTest::leastLong);
     s.says("public static final int NONE = -1, BAD = -2, NOT = -3, FULL = -4;", OrderEdgesTest::constants);
     s.says("h is 17; h becomes 31 h and each of", OrderEdgesTest::digestOfANewOne);
@@ -112,8 +117,7 @@ public final class OrderEdgesTest {
     for (Calls call : Calls.ALL) {
       for (int at = 0; at < call.parameters(); at++) {
         for (int end = 0; end < 2; end++) {
-          int[] args = new int[call.parameters()];
-          for (int i = 0; i < args.length; i++) args[i] = call.bounds[2 * i + end];
+          int[] args = ends(call, end);
           refusedAt(call, args, at, call.bounds[2 * at] - 1);
           refusedAt(call, args, at, call.bounds[2 * at + 1] + 1);
         }
@@ -127,6 +131,42 @@ public final class OrderEdgesTest {
     args[at] = v;
     s.isBad(Land::lived, call.name, args);
     s.isBad(OrderEdgesTest::full, call.name, args);
+  }
+
+  private static int[] ends(Calls call, int end) {
+    int[] args = new int[call.parameters()];
+    for (int i = 0; i < args.length; i++) args[i] = call.bounds[2 * i + end];
+    return args;
+  }
+
+  private static void askingChangesNothing() {
+    for (String name : ASKING) {
+      for (int end = 0; end < 2; end++) {
+        int[] args = ends(Calls.named(name), end);
+        s.asks(Land::fresh, name, args);
+        s.asks(Land::lived, name, args);
+        s.asks(OrderEdgesTest::full, name, args);
+      }
+    }
+    s.asks(Land::lived, "get", 0, 0, 2);
+    s.asks(Land::lived, "get", 2, 2, 0);
+  }
+
+  /** In that land the latest is 3; neither a call that is well nor one that is BAD, NOT or FULL tells another. */
+  private static void findingIsKept() {
+    for (Calls call : Calls.ALL) {
+      s.due(Land.lived().with(call.name, ends(call, 0)), 3, "count", 8);
+      if (call.parameters() > 0) s.due(Land.lived().with(call.name, wrong(call)), 3, "count", 8);
+    }
+    s.due(Land.lived().with("wipe", 0).with("undo", 0), 3, "count", 8);
+    s.due(full().with("put", 1, 0, 0, 0).with("type", 0, 0), 3, "count", 8);
+    s.due(Land.lived().with("lose", 0).with("lose", 1).with("lose", 2), 3, "count", 8);
+  }
+
+  private static int[] wrong(Calls call) {
+    int[] args = ends(call, 0);
+    args[0] = -2;
+    return args;
   }
 
   private static void leastLong() {

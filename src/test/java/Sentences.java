@@ -50,6 +50,13 @@ final class Sentences {
     alike(call, args, x.told(), made.get().told(), -1);
   }
 
+  /** A call that only asks: whatever it answers, it leaves all as it was. */
+  void asks(Supplier<Land> made, String call, int... args) {
+    Land x = made.get();
+    x.ask(call, args);
+    alike(call, args, x.told(), made.get().told(), -1);
+  }
+
   void isBad(Supplier<Land> made, String call, int... args) {
     refused(made, bad(call), call, args);
   }

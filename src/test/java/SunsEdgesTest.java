@@ -62,8 +62,11 @@ public final class SunsEdgesTest {
         s.due(x, t - 1, "sun", sun, 1, 0);
         s.due(x, 0, "place", sun, 0);
         s.within(() -> turned(one, t), 2, 0, t - 1, "sun", sun, 1, 0);
+        s.within(() -> turned(one, t).with("sun", one, 1, 1), 2, 0, t - 1, "sun", sun, 1, 0);
       }
     }
+    s.within(Land::lived, 2, 0, 8, "sun", 0, 1, 0);
+    s.within(Land::lived, 2, 0, 6, "sun", 1, 1, 0);
   }
 
   private static void ups() {
@@ -81,6 +84,8 @@ public final class SunsEdgesTest {
         s.within(() -> turned(one, t), 2, 0, t, "sun", sun, 2, 0);
       }
     }
+    s.within(Land::lived, 2, 0, 9, "sun", 0, 2, 0);
+    s.within(Land::lived, 2, 0, 7, "sun", 1, 2, 0);
   }
 
   private static void hours() {
