@@ -214,6 +214,7 @@ public final class OrderEdgesTest {
     Land x = Land.lived();
     x.suns(2 + seed % 39, 1, 1 + seed % 2, 2 + 7 * seed % 39, 0, seed % 3);
     for (int p = 0; p < 6; p++) x.with("awake", p, (seed * (p + 3) + p) % 16);
+    for (int p = 0; p < 4; p++) x.with("grows", p, seed % 4, 9 - p).with("plant", p, 1 + (seed + p) % 20);
     for (int i = 0; i < seed % 5; i++) x.with("type", 0, "n.rb.d".charAt((seed + i) % 6));
     return seed % 4 == 0 ? x.with("wipe", 0) : x;
   }
