@@ -1,5 +1,6 @@
 import java.util.LinkedHashMap;
 import java.util.Map;
+import java.util.Random;
 
 /** An object with a count of its calls: behind the 512th its answers are free, so no test may ask for more. */
 final class Land {
@@ -41,15 +42,28 @@ final class Land {
   static Land fresh() { return new Land(); }
 
   /** A land in which nothing that can be told is as it is at first. */
-  static Land lived() {
-    Land x = new Land().suns(9, 4, 3, 7, 2, 5).text(0, "d..r").text(1, "07;12");
-    for (int p = 0; p < 6; p++) x.with("awake", p, 2 * p + 1).with("worth", p, 20 + 7 * p);
+  static Land lived() { return new Land().live(); }
+
+  private Land live() {
+    suns(9, 4, 3, 7, 2, 5).text(0, "d..r").text(1, "07;12");
+    for (int p = 0; p < 6; p++) with("awake", p, 2 * p + 1).with("worth", p, 20 + 7 * p);
     for (int p = 0; p < 4; p++) {
-      x.with("plant", p, 5 + p);
-      for (int light = 0; light < 4; light++) x.with("grows", p, light, light + p - 5);
+      with("plant", p, 5 + p);
+      for (int light = 0; light < 4; light++) with("grows", p, light, light + p - 5);
     }
-    x.sheet(0, 0, 5, -6, 7).sheet(1, 1, 300, -8).sheet(2, 2, 70000, 9, -9, 8);
-    return x.with("put", 0, 1, 0, 0);
+    sheet(0, 0, 5, -6, 7).sheet(1, 1, 300, -8).sheet(2, 2, 70000, 9, -9, 8);
+    return with("put", 0, 1, 0, 0);
+  }
+
+  /** As lived(), but behind many other calls, so that this many are left of the 512. */
+  static Land old(Random random, int left) {
+    Land x = new Land();
+    int before = MOST_CALLS - left - (lived().calls() + 3);
+    while (x.calls() < before) {
+      Calls call = Calls.ALL[random.nextInt(Calls.ALL.length)];
+      x.with(call.name, call.someArguments(random));
+    }
+    return x.with("wipe", 0).with("wipe", 1).with("lose", 3).live();
   }
 
   /** All that can be told of it, by what is told; this uses the land up. */

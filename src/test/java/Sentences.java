@@ -57,6 +57,16 @@ final class Sentences {
     alike(call, args, x.told(), made.get().told(), -1);
   }
 
+  /** All that can be told of both is alike; this uses both up. */
+  void likeOnes(String which, Land got, Land want) {
+    Map<String, Long> due = want.told();
+    Map<String, Long> told = got.told();
+    answer("the number of answers of " + which, told.size(), due.size());
+    for (String row : due.keySet()) {
+      if (told.containsKey(row)) answer(row + " of " + which, told.get(row), due.get(row));
+    }
+  }
+
   void isBad(Supplier<Land> made, String call, int... args) {
     refused(made, bad(call), call, args);
   }
